@@ -224,7 +224,7 @@ public final class TwoMinutes {
             return BAD;
         }
         tried.copyFrom(now);
-        return tried.longestWithin(n, 0);
+        return tried.longestWithin(n);
     }
 
     public int kept() {
@@ -275,7 +275,7 @@ public final class TwoMinutes {
                 tried.copyFrom(now);
                 tried.phases[person] = first;
                 tried.phases[other] = second;
-                int quiet = tried.longestWithin(n, 0);
+                int quiet = tried.longestWithin(n);
                 if (quiet > greatest) {
                     greatest = quiet;
                     best = first * 10 + second;
@@ -289,14 +289,10 @@ public final class TwoMinutes {
         if (!isIn(n, 1, MOST_TRIED) || !isIn(v, 0, 99)) {
             return BAD;
         }
-        // With all away every SECOND is quiet; no set does better.
-        if (now.run + n < v) {
-            return NONE;
-        }
         int sets = 1 << now.count;
         for (int size = 0; size <= now.count; size++) {
             for (int away = 0; away < sets; away++) {
-                if (Integer.bitCount(away) == size && lengthWithout(away, n) >= v) {
+                if (Integer.bitCount(away) == size && isQuietWithout(away, n, v)) {
                     return away;
                 }
             }
@@ -356,7 +352,7 @@ public final class TwoMinutes {
         for (int value = least; value <= most; value++) {
             tried.copyFrom(now);
             values[person] = value;
-            int quiet = tried.longestWithin(n, 0);
+            int quiet = tried.longestWithin(n);
             if (quiet > greatest) {
                 greatest = quiet;
                 best = value;
@@ -365,9 +361,16 @@ public final class TwoMinutes {
         return best;
     }
 
-    private int lengthWithout(int away, int n) {
+    /** Whether LENGTH by n is v or more, some being away; given up as soon as what is left can't do it. */
+    private boolean isQuietWithout(int away, int n, int v) {
         tried.copyFrom(now);
-        return tried.longestWithin(n, away);
+        for (int left = n; left > 0 && tried.run + left >= v; left--) {
+            tried.endSecond(tried.soundingSet() & ~away);
+            if (tried.run >= v) {
+                return true;
+            }
+        }
+        return false;
     }
 
     private int secondsHeard(int corner, int n) {
@@ -848,11 +851,11 @@ public final class TwoMinutes {
             second++;
         }
 
-        /** LENGTH by n, some being away; the town has gone on by n SECONDS then. */
-        int longestWithin(int n, int away) {
+        /** LENGTH by n; the town has gone on by n SECONDS then. */
+        int longestWithin(int n) {
             int greatest = 0;
             for (int i = 0; i < n; i++) {
-                endSecond(soundingSet() & ~away);
+                endSecond(soundingSet());
                 greatest = Math.max(greatest, run);
             }
             return greatest;

@@ -138,6 +138,8 @@ public final class PromisesTest {
         due("3 SHELVES stay", x.taken(2, 12), 5);
         due("3 THE TRACE stays", x.many(6), 2);
         due("3 what is kept stays", x.again(), 1);
+        due("3 PHASE 0, told", told("cook at 0 beat 1 phase 0;").of(0, 1), 1);
+        due("3 COUGH 0, told", told("cough 000;").lawOf(3), 0);
         due("3 all six", told("officer at 1;mother at 2;neighbour at 3;cook at 4;soldier at 5;baker at 6;").many(0), 6);
         due("3 nothing", new TwoMinutes().town(), 0);
         due("3 blanks", told("   ").many(0), 0);
@@ -158,6 +160,13 @@ public final class PromisesTest {
         fault("goal", 4);
         fault("goal 3", 6);
         fault("cookat 3;", 0);
+        fault("cookz at 3;", 0);
+        fault("acook at 3;", 0);
+        fault("goal 0012;", 5);
+        fault("cook at 3/", 9);
+        fault("cook at 3:", 9);
+        fault("cook at 3`", 9);
+        fault("cook at 3{", 9);
         fault("cook at 12;", 8);
         fault("cook at 0012;", 8);
         fault("cook at 3 beat 0;", 15);
@@ -266,6 +275,17 @@ public final class PromisesTest {
         // never as soldier; RUN is 4 behind four quiet SECONDS, then again and again
         for (int second = 0; second < 15; second++) {
             due("7 officer SOUNDS", x.of(0, 5), second % 5 == 4 ? 1 : 0);
+            x.seconds(1);
+        }
+        x = told("officer at 0 beat 3 phase 1;");
+        // as soldier at 2, 8, 14, ..; RUN is 6 never
+        for (int second = 0; second < 15; second++) {
+            due("7 officer SOUNDS as soldier", x.of(0, 5), second % 6 == 2 ? 1 : 0);
+            x.seconds(1);
+        }
+        x = told("officer at 0 beat 4 phase 1;");
+        for (int second = 0; second < 19; second++) {
+            due("7 officer SOUNDS by RUN", x.of(0, 5), second % 9 == 8 ? 1 : 0);
             x.seconds(1);
         }
         x = told("mother at 0 beat 1;watch 3;");
@@ -425,16 +445,20 @@ public final class PromisesTest {
         x.set(3, 50);
         int z = 1;
         int coughs = 0;
-        for (int i = 0; i < 30; i++) {
+        for (int n = 1; n <= 30; n++) {
             z = z * 1103515245 + 12345;
             z = z * 1103515245 + 12345;
             coughs += (z >>> 16) % 100 < 50 ? 1 : 0;
+            due("15 by " + n, x.spoilt(n), coughs);
         }
-        due("15", x.spoilt(30), coughs);
         due("15 nothing changes", x.state(0), 3);
         due("15 z neither", x.seed(1), 1);
         x.change(0, 1, 1);
         due("15 noise anyway", x.spoilt(30), 0);
+        x = told("neighbour at 0 phase 1;");
+        x.set(3, 99);
+        due("14 one alone draws, too", x.second(), 0);
+        due("14 z went on twice", x.seed(1), (1 * 1103515245 + 12345) * 1103515245 + 12345);
     }
 
     private static void promise16and17() {
@@ -546,6 +570,8 @@ public final class PromisesTest {
         due("25 the other way", x.pairFor(1, 0, 3), 11);
         x = told("neighbour at 0 beat 1;soldier at 0 beat 2;");
         due("25 never quiet", x.pairFor(0, 1, 9), 0);
+        x = told("neighbour at 0 beat 9;neighbour at 0 beat 9;neighbour at 0 beat 9 phase 8;");
+        due("25 the greatest PHASES", x.pairFor(0, 1, 12), 88);
         x = told("soldier at 0 beat 2;mother at 0;watch 50;");
         due("25 the first one's counts", x.pairFor(0, 1, 9), 10);
         due("25 the second one's counts", x.pairFor(1, 0, 9), 1);
@@ -584,6 +610,8 @@ public final class PromisesTest {
             due("27 AT " + c, x.heard(c, 10), heard[c]);
         }
         due("28", x.calm(10), 6);
+        due("28", x.calm(1), 6);
+        due("28", x.calm(60), 6);
         due("27 also where one is", x.heard(0, 1), 1);
         due("27", x.heard(0, 60), 30);
         x.bring(1, 8);
@@ -876,6 +904,11 @@ public final class PromisesTest {
         acts(x, 0, 3, 10, 57 ^ 100, 13, 11, 10);
         acts(x, 1, 1, 10, 114, 20, 11, 10);
         acts(x, 1, 3, 10, 114 ^ 100, 13, 20, 11, 10);
+        acts(x, 1, 0, 10, 61, 10);
+        acts(x, 1, 2, 10, 3, 12);
+        acts(x, 5, 0, 10, 65, 10);
+        acts(x, 5, 1, 10, 58, 11, 10);
+        acts(x, 2, 2, 10, 3, 12);
         acts(x, 2, 0, 10, -62, 30, 10);
         acts(x, 2, 1, 10, -67, 11, 30, 10);
         acts(x, 2, 3, 10, (-67 ^ 100) + 0, 31, 13, 11, 30, 10, 12);
@@ -929,8 +962,12 @@ public final class PromisesTest {
         due("44 NOISE", x.many(3), 0);
         x.seconds(1);
         due("44 none SOUNDS", x.many(1), 0);
+        due("44 the first one heard nothing", x.of(0, 4), 0);
         // the neighbour is heard AT 2, the soldier is not heard AT 0 but by the mother
         due("44 NOISE", x.many(3), 2);
+        x.bring(0, 2);
+        x.seconds(2);
+        due("44 the first one's NOISE, too", x.many(3), 3);
         x.prove(0, 6);
         due("44 ROWS", x.many(4), 6);
         x.feed(0, 3);
