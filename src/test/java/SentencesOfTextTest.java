@@ -155,6 +155,19 @@ public final class SentencesOfTextTest extends Sentences {
         fault("Cook at 1;", 0);
         fault("cook aT 1;", 5);
         fault("cook at\u00e9 1;", 7);
+        String[] names = {"neighbour at 1;", "cook at 1;", "soldier at 1;", "baker at 1;", "officer at 1;", "mother at 1;", "goal 1;", "loud 1;",
+            "watch 1;", "cough 1;"};
+        for (String name : names) {
+            for (int i = 0; i < name.indexOf(' '); i++) {
+                fault(name.substring(0, i) + "x" + name.substring(i + 1), 0);
+                fault(name.substring(0, i) + name.substring(i + 1), 0);
+            }
+        }
+        String[] inner = {"bt 1;", "az 1;", "at 1 xeat 2;", "at 1 beax 2;", "at 1 bea 2;", "at 1 xhase 2;", "at 1 phasx 2;", "at 1 phas 2;"};
+        int[] places = {5, 5, 10, 10, 10, 10, 10, 10};
+        for (int i = 0; i < inner.length; i++) {
+            fault("cook " + inner[i], places[i]);
+        }
         fault("cooka at 1;", 0);
         fault("cookz at 1;", 0);
     }

@@ -196,7 +196,7 @@ public final class SentencesOfThingPromisesTest extends Sentences {
         quote("Promise 36", "-11");
         TwoMinutes x = eightAndBytes(1);
         all("missing", -11, x.minds(1, 0, 0, 0), x.minds(1, 0, 0, 1), x.minds(3, -1, 7, 1));
-        due("BAD ahead of it", x.minds(1, 0, 8, 0), BAD);
+        all("BAD ahead of it", BAD, x.minds(1, 0, 8, 0), x.minds(1, 0, -1, 0), x.minds(1, 0, 0, -1), x.minds(1, 0, 0, 9), x.minds(1, 0, 7, 2));
     }
 
     private static void p36Sort() {
@@ -205,7 +205,7 @@ public final class SentencesOfThingPromisesTest extends Sentences {
         for (int sort = 1; sort < 4; sort++) {
             x.sheet(sort, sort, 3);
             all("no bytes", -13, x.minds(sort, 0, 0, 1), x.minds(sort, 0, 0, 0), x.minds(sort, 9, 0, 1), x.minds(sort, -1, 0, 1));
-            due("BAD ahead of it", x.minds(sort, 0, 8, 0), BAD);
+            all("BAD ahead of it", BAD, x.minds(sort, 0, 8, 0), x.minds(sort, 0, 0, -1), x.minds(sort, 0, 7, 2));
         }
         due("PHASE", x.of(0, 2), 3);
     }
@@ -216,6 +216,7 @@ public final class SentencesOfThingPromisesTest extends Sentences {
         range("i, for n 0", 0, 3, -12, v -> x.minds(0, v, 0, 0));
         range("i, for n 1", 0, 2, -12, v -> x.minds(0, v, 0, 1));
         range("i, for n 3", 0, 0, -12, v -> x.minds(0, v, 0, 3));
+        all("BAD ahead of it", BAD, x.minds(0, 4, 8, 0), x.minds(0, -1, 0, -1), x.minds(0, -1, 0, 9), x.minds(0, 3, 7, 2));
         all("not so many", -12, x.minds(0, 0, 0, 4), x.minds(0, 2, 0, 2), x.minds(0, 3, 0, 1), x.minds(0, MAX, 0, 8), x.minds(0, MIN, 0, 8));
         TwoMinutes y = eightAndBytes();
         due("of no items, none", y.minds(0, 0, 0, 0), 0);
@@ -583,6 +584,8 @@ public final class SentencesOfThingPromisesTest extends Sentences {
         due("the soldier and the mother heard the neighbour", x.many(3), 2);
         x.bring(0, 2);
         due("CORNERS", x.many(2), 2);
+        x.seconds(2);
+        due("now the neighbour heard the soldier, too", x.many(3), 3);
         x.prove(0, 10);
         due("ROWS", x.many(4), 10);
         x.feed(0, 8);

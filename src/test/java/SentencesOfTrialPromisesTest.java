@@ -248,6 +248,20 @@ public final class SentencesOfTrialPromisesTest extends Sentences {
         due("by 2", x.calm(2), 10);
         due("by 60", x.calm(60), 10);
         due("nobody", new TwoMinutes().calm(1), 0);
+        // 0 to 10 are loud always; AT 11 only SECOND 22 is quiet
+        x = told("baker at 4 beat 1;baker at 6 beat 1;loud 0;");
+        x.person(NEIGHBOUR, 2, 1, 11);
+        x.person(NEIGHBOUR, 4, 0, 11);
+        x.person(NEIGHBOUR, 8, 6, 11);
+        x.person(NEIGHBOUR, 3, 0, 11);
+        x.person(NEIGHBOUR, 3, 1, 11);
+        x.person(NEIGHBOUR, 9, 8, 11);
+        due("heard by 60", x.heard(11, 60), 59);
+        due("by 60: quiet once", x.calm(60), 11);
+        due("by 23: quiet once", x.calm(23), 11);
+        due("by 22: loud everywhere", x.calm(22), 0);
+        x.change(7, 1, 1);
+        due("by 60: loud everywhere", x.calm(60), 0);
     }
 
     private static void p28Bad() {
