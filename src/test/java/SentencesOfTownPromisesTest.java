@@ -436,9 +436,14 @@ public final class SentencesOfTownPromisesTest extends Sentences {
         due("DONE", x.state(3), 1);
         all("NOISE", 2, x.of(0, 4), x.of(1, 4));
         due("NOISE", x.of(2, 4), 4);
-        due("what RUN was", x.anew(), 4);
+        x.change(0, 1, 9);
+        x.change(0, 2, 8);
+        x.seconds(2);
+        due("RUN, less than LONGEST", x.state(1), 1);
+        x.seconds(1);
+        due("what RUN was", x.anew(), 2);
         all("RUN, LONGEST, DONE, NOISE", 0, x.state(1), x.state(2), x.state(3), x.state(4), x.of(0, 4), x.of(1, 4), x.of(2, 4));
-        due("SECOND stays", x.state(0), 10);
+        due("SECOND stays", x.state(0), 13);
         due("what RUN was", x.anew(), 0);
         due("PEOPLE stay", x.many(0), 3);
         due("nobody", new TwoMinutes().anew(), 0);

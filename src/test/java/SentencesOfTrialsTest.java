@@ -211,6 +211,9 @@ public final class SentencesOfTrialsTest extends Sentences {
         due("it is one short", x.awayFor(30, 91), NONE);
         x.person(NEIGHBOUR, 1, 0, 0);
         due("it is to go", x.awayFor(30, 90), 1);
+        x.seconds(1);
+        due("LONGEST counts nothing: RUN is 0 now", x.awayFor(30, 30), 1);
+        due("LONGEST counts nothing: RUN is 0 now", x.awayFor(30, 31), NONE);
         due("v 0 again", x.awayFor(30, 0), 0);
     }
 
@@ -418,12 +421,22 @@ public final class SentencesOfTrialsTest extends Sentences {
         due("26, 83, 95", x.spoilt(3), 3);
         due("z is as it was", x.seed(1), 1);
         due("SECOND is as it was", x.state(0), 0);
+        // from z 23 the second draw leaves 99, from 50 it leaves 98
+        x.set(COUGH, 99);
+        x.seed(23);
+        due("99, from another z", x.spoilt(1), 0);
+        due("z is as it was", x.seed(50), 23);
+        due("98, from another z", x.spoilt(1), 1);
+        due("z is as it was", x.seed(1), 50);
         // it SOUNDS in SECOND 4: were a try to begin where the last one ended, it would be by then
         x.set(COUGH, 0);
         due("each from how all is now", x.spoilt(30), 0);
         x.set(COUGH, 99);
         x.seconds(4);
         due("one SOUNDS anyway: RUN is 0 behind a SECOND", x.spoilt(30), 0);
+        x.seconds(4);
+        due("RUN is 3, LONGEST is 4", x.state(2), 4);
+        due("by RUN, though LONGEST stays", x.spoilt(1), 1);
         TwoMinutes nobody = new TwoMinutes();
         nobody.set(COUGH, 99);
         due("nobody coughs", nobody.spoilt(30), 0);
