@@ -938,24 +938,23 @@ public final class TwoMinutes {
         }
 
         private void readPerson(Town town, int kind) {
-            if (isName("at")) {
-                readSign();
-            } else {
+            if (!tookName("at")) {
                 fail();
             }
             int corner = takeNumber(0, CORNERS - 1);
-            int beat = takeNamed("beat", 1, MOST_BEAT, BEAT_WITHOUT);
-            int phase = takeNamed("phase", 0, MOST_PHASE, PHASE_WITHOUT);
+            int beat = tookName("beat") ? takeNumber(1, MOST_BEAT) : BEAT_WITHOUT;
+            int phase = tookName("phase") ? takeNumber(0, MOST_PHASE) : PHASE_WITHOUT;
             takeSemicolon();
             town.add(kind, beat, phase, corner);
         }
 
-        private int takeNamed(String name, int least, int most, int without) {
+        /** Goes on behind a NAME, if it is the one that stands here. */
+        private boolean tookName(String name) {
             if (fault != RIGHT || !isName(name)) {
-                return without;
+                return false;
             }
             readSign();
-            return takeNumber(least, most);
+            return true;
         }
 
         private int takeNumber(int least, int most) {
